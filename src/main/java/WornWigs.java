@@ -207,7 +207,10 @@ public final class WornWigs {
         }
         int died = 0;
         for (int i = 0; i < n; i++) {
-            past.remember(now.bench);
+            // Of many years only the last ones would be kept anyway.
+            if (i >= n - MOST_UNDONE) {
+                past.remember(now.bench);
+            }
             died += court.passYear();
         }
         return died;
@@ -696,17 +699,17 @@ public final class WornWigs {
         private void itchAnew(int w) {
             int couples = 0;
             for (int c = 0; c < CAUSES; c++) {
-                couples += Integer.bitCount(rulesFor(w, c, -1)) * Integer.bitCount(rulesFor(w, c, 1));
+                couples += Integer.bitCount(rulesFor(w, c, false)) * Integer.bitCount(rulesFor(w, c, true));
             }
             itch[w] = Math.min(FULL, couples * 9);
         }
 
-        /** The set of RULES for a CAUSE whose RULING has that sign. */
-        private int rulesFor(int w, int c, int sign) {
+        /** The set of RULES for a CAUSE whose RULING is above 0, or below. */
+        private int rulesFor(int w, int c, boolean above) {
             int found = 0;
             for (int i = 0; i < rules[w]; i++) {
                 int at = w * MOST_RULES + i;
-                if (cause[at] == c && Integer.signum(ruling[at]) == sign) {
+                if (cause[at] == c && (above ? ruling[at] > 0 : ruling[at] < 0)) {
                     found |= 1 << i;
                 }
             }
@@ -726,8 +729,8 @@ public final class WornWigs {
         int toComb(int w) {
             int combed = 0;
             for (int c = 0; c < CAUSES; c++) {
-                int below = rulesFor(w, c, -1);
-                int above = rulesFor(w, c, 1);
+                int below = rulesFor(w, c, false);
+                int above = rulesFor(w, c, true);
                 int fewer = Integer.bitCount(below) - Integer.bitCount(above);
                 boolean belowGoes = fewer < 0 || fewer == 0 && below < above;
                 combed |= belowGoes ? below : above;
@@ -1070,22 +1073,23 @@ public final class WornWigs {
         private int run(int from, int to) {
             int high = 0;
             for (int i = from; i < to; i++) {
-                if (sign[i] == NUMBER || sign[i] == FACT) {
+                int next = sign[i];
+                if (next == NUMBER || next == FACT) {
                     if (high < stack.length) {
-                        stack[high] = sign[i] == NUMBER ? value[i] : facts[value[i]];
+                        stack[high] = next == NUMBER ? value[i] : facts[value[i]];
                         high++;
                     }
-                } else if (sign[i] == NOT) {
+                } else if (next == NOT) {
                     if (high > 0) {
                         stack[high - 1] = 1 - stack[high - 1];
                     }
-                } else if (sign[i] == '/') {
+                } else if (next == '/') {
                     if (high > 0 && value[i] != 0) {
                         stack[high - 1] /= value[i];
                     }
                 } else if (high > 1) {
                     high--;
-                    stack[high - 1] = joined(sign[i], stack[high - 1], stack[high]);
+                    stack[high - 1] = joined(next, stack[high - 1], stack[high]);
                 }
             }
             return stack[0];
@@ -2183,7 +2187,7 @@ public final class WornWigs {
 
         /** A C has ended: each not that waits for it is put, then an and; an or only if no and comes. */
         private void settle() {
-            while (isAwaited(NOT)) {
+            while (waits > 0 && waiting[waits - 1] == NOT) {
                 law.put(NOT, 0);
                 waits--;
                 open--;
