@@ -357,9 +357,9 @@ public final class WornWigs {
             case 1:
                 return now.pages.what[i];
             case 2:
-                return now.pages.which[i];
+                return now.pages.first[i];
             case 3:
-                return now.pages.howMuch[i];
+                return now.pages.second[i];
             default:
                 return NO_VERDICT;
         }
@@ -977,28 +977,21 @@ public final class WornWigs {
         }
     }
 
-    /** The lines of THE BOOK; how many there are stands in the Bench, since UNDO takes lines back. */
-    private static final class Book {
-        final int[] year = new int[MOST_BOOK];
-        final int[] what = new int[MOST_BOOK];
-        final int[] which = new int[MOST_BOOK];
-        final int[] howMuch = new int[MOST_BOOK];
-
-        void copyFrom(Book other) {
-            copyRow(other.year, year);
-            copyRow(other.what, what);
-            copyRow(other.which, which);
-            copyRow(other.howMuch, howMuch);
-        }
-    }
-
-    /** The lines of DOCKET, LOANS or KIN; a row that a text does not need stays 0. */
+    /** The lines of THE BOOK, DOCKET, LOANS or KIN; a row that is not needed stays 0. */
     private static final class Lines {
-        final int[] year = new int[MOST_LINES];
-        final int[] what = new int[MOST_LINES];
-        final int[] first = new int[MOST_LINES];
-        final int[] second = new int[MOST_LINES];
+        final int[] year;
+        final int[] what;
+        final int[] first;
+        final int[] second;
         int count;
+
+        Lines(int most) {
+            int length = Math.max(0, most);
+            year = new int[length];
+            what = new int[length];
+            first = new int[length];
+            second = new int[length];
+        }
 
         void copyFrom(Lines other) {
             copyRow(other.year, year);
@@ -1009,7 +1002,7 @@ public final class WornWigs {
         }
 
         void add(int itsYear, int itsWhat, int itsFirst, int itsSecond) {
-            if (count >= MOST_LINES) {
+            if (count >= year.length) {
                 return;
             }
             year[count] = itsYear;
@@ -1308,11 +1301,11 @@ public final class WornWigs {
     /** All that THE IMAGE holds. */
     private static final class World {
         final Bench bench = new Bench();
-        final Book pages = new Book();
+        final Lines pages = new Lines(MOST_BOOK);
         final Law law = new Law();
-        final Lines docket = new Lines();
-        final Lines loans = new Lines();
-        final Lines descent = new Lines();
+        final Lines docket = new Lines(MOST_LINES);
+        final Lines loans = new Lines(MOST_LINES);
+        final Lines descent = new Lines(MOST_LINES);
         final Told told = new Told();
 
         void copyFrom(World other) {
@@ -1387,16 +1380,15 @@ public final class WornWigs {
             inThought = false;
         }
 
+        /** How many lines THE BOOK has stands in the Bench, too, since UNDO takes lines back. */
         private void note(int what, int which, int howMuch) {
-            int line = bench.bookLines;
-            if (inThought || line >= MOST_BOOK) {
+            if (inThought) {
                 return;
             }
-            world.pages.year[line] = bench.year;
-            world.pages.what[line] = what;
-            world.pages.which[line] = which;
-            world.pages.howMuch[line] = howMuch;
-            bench.bookLines++;
+            Lines pages = world.pages;
+            pages.count = bench.bookLines;
+            pages.add(bench.year, what, which, howMuch);
+            bench.bookLines = pages.count;
         }
 
         private void askNobody() {
@@ -1791,7 +1783,7 @@ public final class WornWigs {
         int faultFound;
         int faultPlace = NONE;
         private final Law law = new Law();
-        final Lines lines = new Lines();
+        final Lines lines = new Lines(MOST_LINES);
         // and, or, ( and not that wait for what comes: of eight that are open and the whole two each at most.
         private final int[] waiting = new int[32];
         private int waits;

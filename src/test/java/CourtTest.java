@@ -98,6 +98,13 @@ public final class CourtTest {
         }
         CHECK.due("cause of the last", 2, x.ruleOf(0, 7, 0));
         CHECK.due("itch anew", 81, x.of(0, 2));
+        WornWigs y = bench();
+        for (int i = 0; i < 8; i++) {
+            y.rule(0, 7, i, i == 0 ? 1 : 2);
+        }
+        y.act(0, 0, 0);
+        y.tries(0, 0);
+        CHECK.due("the first went", 1, y.ruleOf(0, 0, 1));
     }
 
     private static void countsAreAskedAhead() {
@@ -171,6 +178,9 @@ public final class CourtTest {
         CHECK.due("second left", 3, x.ruleOf(0, 1, 0));
         CHECK.due("its weight", 4, x.ruleOf(0, 1, 2));
         bookLine(x, 0, 0, 4, 0, 3);
+        CHECK.due("comb the first", true, x.act(2, 0, 2));
+        CHECK.due("comb the only one", true, x.act(2, 0, 3));
+        CHECK.due("rules left", 0, x.of(0, 5));
     }
 
     private static void brushing() {

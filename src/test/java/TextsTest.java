@@ -122,7 +122,10 @@ public final class TextsTest {
         CHECK.dueFault(x, 0, "moth 1.;", 1, 6);
         CHECK.dueFault(x, 0, "moth 1" + (char) 233 + ";", 1, 6);
         CHECK.dueFault(x, 0, "moth age" + (char) 233 + ";", 1, 8);
-        CHECK.dueFault(x, 0, "moth 1" + (char) 0 + ";", 1, 6);
+        for (int b = 0; b < 10; b++) {
+            CHECK.dueFault(x, 0, "moth " + (char) b + ";", 1, 5);
+            CHECK.dueFault(x, 0, "moth 1;" + (char) b, 1, 7);
+        }
         CHECK.dueFault(x, 0, "moth in;", 1, 5);
         CHECK.dueFault(x, 0, "moth 1", 1, 6);
         CHECK.dueFault(x, 0, "moth 1   ", 1, 9);
@@ -135,6 +138,9 @@ public final class TextsTest {
         CHECK.dueFault(x, 0, "1;", 1, 0);
         CHECK.dueFault(x, 0, "moth 1;;", 1, 7);
         CHECK.dueFault(x, 0, "moth -1;", 1, 5);
+        CHECK.dueFault(x, 0, "moth counts;", 1, 5);
+        CHECK.dueFault(x, 0, "moth moth;", 1, 5);
+        CHECK.dueFault(x, 0, "moth 1+dies;", 1, 7);
         CHECK.dueFault(x, 0, "moth (1);", 1, 5);
         CHECK.dueFault(x, 0, "moth 1 2;", 1, 7);
         CHECK.dueFault(x, 0, "moth 1+;", 1, 7);
@@ -226,7 +232,7 @@ public final class TextsTest {
         x.wig(0, 1);
         x.wig(0, 1);
         x.judge(1, 1);
-        CHECK.dueText(x, 2, "in 0 wig 1 on 0;in 999 off 1;in 3 comb 1 7;in 2 brush 0 99;in 2 brush 0 1;", 5);
+        CHECK.dueText(x, 2, "in 0 wig 1 on 0;in 999 off 1;in 3 comb 1 7;in 2 brush 0 99;in 2 brush 0 1;in 3 comb 0 0;", 6);
         CHECK.dueFault(x, 2, "in 1000 off 0;", 2, 3);
         CHECK.dueFault(x, 2, "in 0 wig 2 on 0;", 2, 9);
         CHECK.dueFault(x, 2, "in 0 wig 0 on 1;", 2, 14);
@@ -296,6 +302,9 @@ public final class TextsTest {
         CHECK.due("not of one alone", 2, mothBy("moth 1 when not 1=1 and 1=2; moth 2;"));
         CHECK.due("not of one alone", 1, mothBy("moth 1 when not 1=2 or 1=1; moth 2;"));
         CHECK.due("not of a (", 1, mothBy("moth 1 when not (1=1 and 1=2); moth 2;"));
+        CHECK.due("not of what is so", 2, mothBy("moth 1 when not 1=1; moth 2;"));
+        CHECK.due("not of what is not so", 1, mothBy("moth 1 when not 1=2; moth 2;"));
+        CHECK.due("not not of what is not so", 2, mothBy("moth 1 when not not 1=2; moth 2;"));
         CHECK.due("not not", 1, mothBy("moth 1 when not not 1=1; moth 2;"));
         CHECK.due("not behind and", 1, mothBy("moth 1 when 1=1 and not 1=2; moth 2;"));
         CHECK.due("sums compared", 1, mothBy("moth 1 when 1+1<3 and 2*2>3 and 4/2=2; moth 2;"));

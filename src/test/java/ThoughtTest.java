@@ -57,6 +57,15 @@ public final class ThoughtTest {
         CHECK.due("goes(1, -1)", -1, x.goes(1, -1));
         Checks.text(x, 0, "dies 500 when mind=2; dies 499;");
         CHECK.due("500 dies", 1, x.goes(1, 0));
+        WornWigs z = new WornWigs();
+        z.judge(30, 0);
+        z.trial(0, 0);
+        z.trial(0, 1);
+        z.trial(0, -1);
+        z.tries(0, 0);
+        z.tries(1, 0);
+        z.tries(2, 0);
+        CHECK.due("only what is above 0", 1, z.goes(1, 3));
         WornWigs y = new WornWigs();
         y.judge(60, 0);
         Checks.text(y, 0, "dies 0;");
@@ -141,6 +150,15 @@ public final class ThoughtTest {
             x.set(0, j, 119);
         }
         x.years(1);
+        WornWigs y = new WornWigs();
+        y.trial(0, -50);
+        y.trial(0, 50);
+        y.judge(30, 1);
+        y.judge(30, 0);
+        CHECK.due("best below 0", 0, y.forum(0, 0));
+        CHECK.due("worst below 0", 1, y.forum(0, 1));
+        CHECK.due("best above 0", 0, y.forum(1, 0));
+        CHECK.due("worst above 0", 1, y.forum(1, 1));
         CHECK.due("all dead", -1, x.forum(0, 0));
         CHECK.due("all dead", -1, x.forum(0, 1));
     }
@@ -222,6 +240,14 @@ public final class ThoughtTest {
             CHECK.due("no such n", -1, x.heir(0, f));
         }
         CHECK.due("no such wig", -1, x.heir(2, 1));
+        WornWigs y = new WornWigs();
+        y.wig(0, 9);
+        for (int j = 0; j < 10; j++) {
+            y.judge(50 - j, 0);
+        }
+        y.act(0, 0, 5);
+        CHECK.due("the first of nine", 9, y.heir(0, 1));
+        CHECK.due("the last of nine", 0, y.heir(0, 9));
     }
 
     private static void kin() {
@@ -255,6 +281,9 @@ public final class ThoughtTest {
         Checks.text(x, 3, "wig 0 of 1;wig 1 of 2;wig 2 of 3;wig 3 of 4;wig 4 of 5;wig 5 of 6;wig 6 of 7;");
         CHECK.due("all the way", 7, x.kin(0, -1));
         CHECK.due("all the way", 7, x.kin(0, 7));
+        CHECK.due("all the way", 7, x.kin(7, 0));
+        Checks.text(x, 3, "wig 1 of 0; wig 0 of 2;");
+        CHECK.due("past the first", 2, x.kin(1, -1));
     }
 
     private static void savesFromAFire() {
@@ -266,11 +295,14 @@ public final class ThoughtTest {
                 x.rule(i, r, 1, 1);
             }
         }
-        int[][] due = {{9, 0, 0}, {10, 2, 1}, {19, 2, 1}, {20, 4, 5}, {30, 5, 3}, {40, 7, 7}, {99, 8, 16}, {400, 15, 23}};
+        int[][] due = {{1, 0, 0}, {9, 0, 0}, {10, 2, 1}, {19, 2, 1}, {20, 4, 5}, {30, 5, 3}, {40, 7, 7}, {99, 8, 16}, {400, 15, 23}};
         for (int[] d : due) {
             CHECK.due("saves(" + d[0] + ", 0)", d[1], x.saves(d[0], 0));
             CHECK.due("saves(" + d[0] + ", 1)", d[2], x.saves(d[0], 1));
         }
+        x.rule(3, 0, 0, 1);
+        CHECK.due("one rule, no hair", 1, x.saves(1, 0));
+        CHECK.due("one rule, no hair", 8, x.saves(1, 1));
         CHECK.due("saves(0, 0)", -1, x.saves(0, 0));
         CHECK.due("saves(401, 0)", -1, x.saves(401, 0));
         CHECK.due("another what", -1, x.saves(1, 2));
@@ -302,6 +334,14 @@ public final class ThoughtTest {
             CHECK.due("another what", -1, x.panels(0, f));
         }
         CHECK.due("no such case", -1, x.panels(1, 0));
+        WornWigs y = new WornWigs();
+        y.trial(0, 1);
+        y.trial(0, 0);
+        for (int i = 0; i < 3; i++) {
+            y.judge(30, 0);
+        }
+        CHECK.due("1 is above 0", 1, y.panels(0, 0));
+        CHECK.due("0 is not", 0, y.panels(1, 0));
     }
 
     private static void traits() {
@@ -395,6 +435,11 @@ public final class ThoughtTest {
         CHECK.due("they go round", -1, x.chain(0));
         CHECK.due("they go round", -1, x.chain(1));
         x.cite(-1, 0);
+        x.cite(1, 0);
+        CHECK.due("first", 1, x.chain(1));
+        CHECK.due("another what", -1, x.chain(2));
+        CHECK.due("another what", -1, x.chain(-1));
+        x.cite(-1, 0);
         for (int i = 13; i > 0; i--) {
             x.cite(i - 1, i);
         }
@@ -443,6 +488,14 @@ public final class ThoughtTest {
         CHECK.due("the one has the second", 99, x.cut(2));
         CHECK.due("another what", -1, x.cut(3));
         CHECK.due("another what", -1, x.cut(-1));
+        WornWigs y = new WornWigs();
+        y.parcel(0, 0, 7);
+        y.parcel(1, 0, 9);
+        y.parcel(0, 1, 3);
+        y.parcel(9, 1, 3);
+        CHECK.due("behind the first", 1, y.cut(0));
+        CHECK.due("alike: the first", 3, y.cut(1));
+        CHECK.due("so the one has the second", 9, y.cut(2));
     }
 
     private static void hears() {
@@ -475,6 +528,13 @@ public final class ThoughtTest {
         }
         CHECK.due("none is then", 0, x.hard(-1, 5));
         CHECK.due("none", 0, x.hears(0));
+        CHECK.due("none", -1, x.hears(10));
+        CHECK.due("one", 1, x.hard(9, 2));
+        CHECK.due("two", 2, x.hard(9, 30));
+        CHECK.due("lateness of the first", 7, x.hears(0));
+        CHECK.due("it is heard first", 0, x.hears(10));
+        CHECK.due("then the other", 1, x.hears(11));
+        x.hard(-1, 0);
         x.hard(24, 99);
         x.hard(1, 99);
         CHECK.due("never below 0", 0, x.hears(0));

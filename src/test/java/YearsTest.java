@@ -94,6 +94,10 @@ public final class YearsTest {
         z.judge(60, 0);
         CHECK.due("dies is asked at 61", 0, z.years(1));
         CHECK.due("a draw", 1013904223, z.look(7));
+        Checks.text(z, 0, "dies 1;");
+        z.state(0);
+        z.years(1);
+        CHECK.due("a draw for 1", 1013904223, z.look(7));
     }
 
     private static void wigPassesOn() {
