@@ -152,6 +152,22 @@ public final class TellingTest {
         CHECK.due("mind", 9, x.who(0, 1));
         CHECK.due("hair", 99, x.of(0, 1));
         CHECK.due("merit", 99, x.trialOf(0, 1));
+        for (int i = 1; i < 14; i++) {
+            x.wig(0, 0);
+            x.judge(0, 0);
+            x.trial(0, 0);
+        }
+        CHECK.due("set the last age", true, x.set(0, 9, 8));
+        CHECK.due("set the last mind", true, x.set(1, 9, 7));
+        CHECK.due("set the last hair", true, x.set(2, 7, 6));
+        CHECK.due("set the last merit", true, x.set(3, 13, 5));
+        CHECK.due("the last age", 8, x.who(9, 0));
+        CHECK.due("the last mind", 7, x.who(9, 1));
+        CHECK.due("the last hair", 6, x.of(7, 1));
+        CHECK.due("the last merit", 5, x.trialOf(13, 1));
+        CHECK.due("no such judge", false, x.set(0, 10, 1));
+        CHECK.due("no such wig", false, x.set(2, 8, 1));
+        CHECK.due("no such case", false, x.set(3, 14, 1));
     }
 
     private static void readingWhatIsNotThere() {

@@ -496,6 +496,11 @@ public final class ThoughtTest {
         CHECK.due("behind the first", 1, y.cut(0));
         CHECK.due("alike: the first", 3, y.cut(1));
         CHECK.due("so the one has the second", 9, y.cut(2));
+        y.parcel(2, 0, 6);
+        // 7 and 15, or 16 and 6
+        CHECK.due("the first counts", 1, y.cut(0));
+        y.parcel(2, 0, 8);
+        CHECK.due("7 and 17, or 16 and 8", 2, y.cut(0));
     }
 
     private static void hears() {
