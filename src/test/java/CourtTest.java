@@ -28,13 +28,6 @@ public final class CourtTest {
         return x;
     }
 
-    private static void bookLine(WornWigs x, int i, int year, int what, int which, int howMuch) {
-        int[] due = {year, what, which, howMuch};
-        for (int k = 0; k < 4; k++) {
-            CHECK.due("book(" + i + ", " + k + ")", due[k], x.book(i, k));
-        }
-    }
-
     private static void verdictByMeritMindAndWig() {
         WornWigs x = bench();
         CHECK.due("without a wig", -50 + 6, x.tries(0, 0));
@@ -177,7 +170,7 @@ public final class CourtTest {
         CHECK.due("first left", 2, x.ruleOf(0, 0, 0));
         CHECK.due("second left", 3, x.ruleOf(0, 1, 0));
         CHECK.due("its weight", 4, x.ruleOf(0, 1, 2));
-        bookLine(x, 0, 0, 4, 0, 3);
+        CHECK.dueLine(x, 0, 0, 4, 0, 3);
         CHECK.due("comb the first", true, x.act(2, 0, 2));
         CHECK.due("comb the only one", true, x.act(2, 0, 3));
         CHECK.due("rules left", 0, x.of(0, 5));
@@ -218,13 +211,13 @@ public final class CourtTest {
         x.act(0, 0, 1);
         x.years(1);
         CHECK.due("lines", 7, x.look(6));
-        bookLine(x, 0, 3, 1, 1, 0);
-        bookLine(x, 1, 3, 0, 6, 1);
-        bookLine(x, 2, 3, 4, 1, 2);
-        bookLine(x, 3, 3, 1, 0, 1);
-        bookLine(x, 4, 3, 2, 1, 120);
-        bookLine(x, 5, 3, 1, 0, 0);
-        bookLine(x, 6, 3, 3, 0, 5);
+        CHECK.dueLine(x, 0, 3, 1, 1, 0);
+        CHECK.dueLine(x, 1, 3, 0, 6, 1);
+        CHECK.dueLine(x, 2, 3, 4, 1, 2);
+        CHECK.dueLine(x, 3, 3, 1, 0, 1);
+        CHECK.dueLine(x, 4, 3, 2, 1, 120);
+        CHECK.dueLine(x, 5, 3, 1, 0, 0);
+        CHECK.dueLine(x, 6, 3, 3, 0, 5);
         CHECK.due("no such line", -10000, x.book(7, 0));
         CHECK.due("no such line", -10000, x.book(-1, 0));
         CHECK.due("another what", -10000, x.book(0, 4));
@@ -238,7 +231,7 @@ public final class CourtTest {
             x.act(1, i % 2, 0);
         }
         CHECK.due("lines", 150, x.look(6));
-        bookLine(x, 149, 0, 1, 1, 0);
+        CHECK.dueLine(x, 149, 0, 1, 1, 0);
         CHECK.due("no such line", -10000, x.book(150, 0));
         CHECK.due("lent all the same", 80, x.of(1, 3));
     }

@@ -30,44 +30,24 @@ public final class PastTest {
         return x;
     }
 
-    /** All that can be read, as one text. */
-    private static String seen(WornWigs x) {
-        StringBuilder s = new StringBuilder();
-        for (int what = 0; what < 12; what++) {
-            s.append(x.look(what)).append(' ');
-        }
-        for (int i = 0; i < 14; i++) {
-            for (int what = 0; what < 7; what++) {
-                s.append(x.of(i, what)).append(' ').append(x.who(i, what)).append(' ');
-                s.append(x.trialOf(i, what)).append(' ').append(x.ruleOf(i / 8, i % 8, what)).append(' ');
-            }
-        }
-        for (int i = 0; i < x.look(6); i++) {
-            for (int what = 0; what < 4; what++) {
-                s.append(x.book(i, what)).append(' ');
-            }
-        }
-        return s.toString();
-    }
-
     private static void sameAs(String what, String before, WornWigs x) {
-        CHECK.due(what, true, before.equals(seen(x)));
+        CHECK.due(what, true, before.equals(Checks.seen(x)));
     }
 
     private static void eachDeedGoesBack() {
         WornWigs x = bench();
         String[] before = new String[7];
-        before[0] = seen(x);
+        before[0] = Checks.seen(x);
         CHECK.due("on", true, x.act(0, 0, 0));
-        before[1] = seen(x);
+        before[1] = Checks.seen(x);
         CHECK.due("tries", 36 + 11 - 12, x.tries(0, 0));
-        before[2] = seen(x);
+        before[2] = Checks.seen(x);
         CHECK.due("brush", true, x.act(3, 0, 5));
-        before[3] = seen(x);
+        before[3] = Checks.seen(x);
         CHECK.due("comb", true, x.act(2, 0, 0));
-        before[4] = seen(x);
+        before[4] = Checks.seen(x);
         CHECK.due("off", true, x.act(1, 0, 0));
-        before[5] = seen(x);
+        before[5] = Checks.seen(x);
         CHECK.due("years", 1, x.years(1));
         for (int i = 5; i >= 0; i--) {
             CHECK.due("what can be undone", i + 1, x.look(12));
@@ -84,7 +64,7 @@ public final class PastTest {
         x.state(77);
         Checks.text(x, 1, "in 0 case 0 before 0; in 1 case 1 before 0;");
         Checks.text(x, 2, "in 0 wig 0 on 1; in 0 wig 1 on 0;");
-        String before = seen(x);
+        String before = Checks.seen(x);
         CHECK.due("years(2) lets one die at least", true, x.years(2) >= 1);
         CHECK.due("two can be undone", 2, x.look(12));
         CHECK.due("state has gone on", true, x.look(7) != 77);
@@ -94,7 +74,7 @@ public final class PastTest {
         sameAs("as before", before, x);
         String after = "";
         x.years(2);
-        after = seen(x);
+        after = Checks.seen(x);
         x.undo();
         x.undo();
         x.years(2);
@@ -227,7 +207,7 @@ public final class PastTest {
         x.act(0, 0, 0);
         x.tries(0, 0);
         x.years(1);
-        String before = seen(x);
+        String before = Checks.seen(x);
         CHECK.due("image(true)", true, x.image(true));
         CHECK.due("what can be undone stays", 3, x.look(12));
         for (int round = 0; round < 2; round++) {
