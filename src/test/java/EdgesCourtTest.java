@@ -9,15 +9,28 @@ public final class EdgesCourtTest {
         CHECK.end();
     }
 
+    /** The WIG of the JUDGE in benchFor; those ahead of it are full of other RULES. */
+    private static final int WIG = 7;
+
     /** A JUDGE of MIND 0 with a WIG whose only RULE for the CASE adds so much to MERIT (-99 .. 99). */
     private static WornWigs benchFor(int merit, int more) {
-        WornWigs x = Checks.bench(1, 1, 0);
+        WornWigs x = Checks.bench(8, 1, 0);
         x.trial(4, merit);
         if (more != 0) {
-            x.rule(0, 4, more < 0 ? -9 : 9, Math.abs(more));
+            x.rule(WIG, 4, more < 0 ? -9 : 9, Math.abs(more));
         }
-        x.act(0, 0, 0);
+        for (int i = 0; i < 56; i++) {
+            x.rule(i / 8, 4, i % 2 == 0 ? 9 : -7, i % 8 + 1);
+        }
+        x.act(0, WIG, 0);
         return x;
+    }
+
+    private static void othersAreLeft(WornWigs x) {
+        for (int i = 0; i < 56; i++) {
+            CHECK.due("ruling of another wig", i % 2 == 0 ? 9 : -7, x.ruleOf(i / 8, i % 8, 1));
+            CHECK.due("weight of another wig", i % 8 + 1, x.ruleOf(i / 8, i % 8, 2));
+        }
     }
 
     // Promise 8: "To TRY: VERDICT;"
@@ -66,9 +79,9 @@ public final class EdgesCourtTest {
         int[][] rules = {{1, 8, 0}, {1, 9, 1}, {1, 17, 1}, {-1, 1, -1}, {-1, 9, -1}, {-1, 10, -2}, {0, 99, 0}};
         for (int[] r : rules) {
             WornWigs x = benchFor(50, 0);
-            x.rule(0, 4, r[0], r[1]);
+            x.rule(WIG, 4, r[0], r[1]);
             CHECK.due("one rule", 50 + r[2], x.would(0, 0));
-            x.rule(0, 4, r[0], r[1]);
+            x.rule(WIG, 4, r[0], r[1]);
             CHECK.due("two rules, each by itself", 50 + 2 * r[2], x.tries(0, 0));
         }
     }
@@ -139,21 +152,21 @@ public final class EdgesCourtTest {
         for (int[] d : due) {
             int merit = Math.max(-99, Math.min(99, d[0]));
             WornWigs x = benchFor(merit, d[0] - merit);
-            int last = x.of(0, 5);
+            int last = x.of(WIG, 5);
             CHECK.due("verdict", d[0], x.tries(0, 0));
-            CHECK.due("rules", last + 1, x.of(0, 5));
-            CHECK.due("cause", 4, x.ruleOf(0, last, 0));
-            CHECK.due("ruling by " + d[0], d[1], x.ruleOf(0, last, 1));
-            CHECK.due("weight", 9, x.ruleOf(0, last, 2));
+            CHECK.due("rules", last + 1, x.of(WIG, 5));
+            CHECK.due("cause", 4, x.ruleOf(WIG, last, 0));
+            CHECK.due("ruling by " + d[0], d[1], x.ruleOf(WIG, last, 1));
+            CHECK.due("weight", 9, x.ruleOf(WIG, last, 2));
         }
         WornWigs y = benchFor(99, 99);
-        y.rule(0, 4, 9, 2);
+        y.rule(WIG, 4, 9, 2);
         CHECK.due("200", 200, y.tries(0, 0));
-        CHECK.due("10 is held to 9", 9, y.ruleOf(0, 2, 1));
+        CHECK.due("10 is held to 9", 9, y.ruleOf(WIG, 2, 1));
         WornWigs z = benchFor(-99, -99);
-        z.rule(0, 4, -9, 3);
+        z.rule(WIG, 4, -9, 3);
         CHECK.due("-201", -201, z.tries(0, 0));
-        CHECK.due("-11 is held to -9", -9, z.ruleOf(0, 2, 1));
+        CHECK.due("-11 is held to -9", -9, z.ruleOf(WIG, 2, 1));
     }
 
     // Promise 8, terms: "Into his WIG comes a RULE behind all: its CAUSE, RULING VERDICT by 20 (downwards, -9 .. 9
@@ -172,34 +185,35 @@ public final class EdgesCourtTest {
     private static void withSevenNoneGoes() {
         WornWigs x = benchFor(0, 0);
         for (int i = 0; i < 7; i++) {
-            x.rule(0, 0, i, 1);
+            x.rule(WIG, 0, i, 1);
         }
         x.tries(0, 0);
-        CHECK.due("rules", 8, x.of(0, 5));
+        CHECK.due("rules", 8, x.of(WIG, 5));
         for (int i = 0; i < 7; i++) {
-            CHECK.due("ruling " + i, i, x.ruleOf(0, i, 1));
+            CHECK.due("ruling " + i, i, x.ruleOf(WIG, i, 1));
         }
-        CHECK.due("the new one is the last", 4, x.ruleOf(0, 7, 0));
+        CHECK.due("the new one is the last", 4, x.ruleOf(WIG, 7, 0));
     }
 
     // Promise 8, terms: "(are there eight, the one with least WEIGHT goes ahead of that, of several the first)."
     private static void ofEightTheLightestGoes() {
         int[][] weights = {{1, 2, 2, 2, 2, 2, 2, 2}, {2, 2, 2, 2, 2, 2, 2, 1}, {5, 4, 3, 3, 4, 3, 5, 5},
-            {99, 99, 99, 99, 99, 99, 99, 99}, {98, 99, 99, 97, 99, 99, 98, 97}};
-        int[] goes = {0, 7, 2, 0, 3};
+            {99, 99, 99, 99, 99, 99, 99, 99}, {98, 99, 99, 97, 99, 99, 98, 97}, {3, 2, 3, 2, 3, 3, 3, 3}};
+        int[] goes = {0, 7, 2, 0, 3, 1};
         for (int k = 0; k < goes.length; k++) {
             WornWigs x = benchFor(0, 0);
             for (int i = 0; i < 8; i++) {
-                x.rule(0, 0, i, weights[k][i]);
+                x.rule(WIG, 0, i, weights[k][i]);
             }
             x.tries(0, 0);
-            CHECK.due("rules", 8, x.of(0, 5));
+            CHECK.due("rules", 8, x.of(WIG, 5));
             for (int i = 0; i < 7; i++) {
-                CHECK.due("ruling " + i, i < goes[k] ? i : i + 1, x.ruleOf(0, i, 1));
-                CHECK.due("weight " + i, weights[k][i < goes[k] ? i : i + 1], x.ruleOf(0, i, 2));
+                CHECK.due("ruling " + i, i < goes[k] ? i : i + 1, x.ruleOf(WIG, i, 1));
+                CHECK.due("weight " + i, weights[k][i < goes[k] ? i : i + 1], x.ruleOf(WIG, i, 2));
             }
-            CHECK.due("the new one stays", 4, x.ruleOf(0, 7, 0));
-            CHECK.due("its weight", 9, x.ruleOf(0, 7, 2));
+            CHECK.due("the new one stays", 4, x.ruleOf(WIG, 7, 0));
+            CHECK.due("its weight", 9, x.ruleOf(WIG, 7, 2));
+            othersAreLeft(x);
         }
     }
 
@@ -208,19 +222,19 @@ public final class EdgesCourtTest {
     private static void itchOfWhatIsThereThen() {
         WornWigs x = benchFor(-1, 0);
         for (int i = 0; i < 8; i++) {
-            x.rule(0, 5, i == 7 ? -1 : 1, i == 7 ? 1 : 2);
+            x.rule(WIG, 5, i == 7 ? -1 : 1, i == 7 ? 1 : 2);
         }
-        CHECK.due("seven couples", 63, x.of(0, 2));
+        CHECK.due("seven couples", 63, x.of(WIG, 2));
         x.tries(0, 0);
-        CHECK.due("the one below 0 went, the new one is of another cause", 0, x.of(0, 2));
-        x.act(2, 0, 5);
+        CHECK.due("the one below 0 went, the new one is of another cause", 0, x.of(WIG, 2));
+        x.act(2, WIG, 5);
         x.trial(4, 40);
         x.tries(1, 0);
-        CHECK.due("one below and one above 0", 9, x.of(0, 2));
+        CHECK.due("one below and one above 0", 9, x.of(WIG, 2));
         x.trial(4, 1);
         x.tries(2, 0);
-        CHECK.due("0 is neither", 0, x.ruleOf(0, 2, 1));
-        CHECK.due("so it itches no more", 9, x.of(0, 2));
+        CHECK.due("0 is neither", 0, x.ruleOf(WIG, 2, 1));
+        CHECK.due("so it itches no more", 9, x.of(WIG, 2));
     }
 
     // Promise 9: "What 0 ON (WIG who, JUDGE v),"
@@ -288,6 +302,25 @@ public final class EdgesCourtTest {
     }
 
     // Promise 9, terms: "To COMB a CAUSE out: all its RULES go, ITCH anew."
+    private static void whatIsNotOfTheCauseStaysWhereItIs() {
+        WornWigs x = Checks.bench(2, 0, 0);
+        for (int i = 0; i < 8; i++) {
+            x.rule(1, i == 4 || i == 7 ? 2 : 3, i - 4, i + 1);
+        }
+        x.rule(0, 2, 1, 1);
+        CHECK.due("comb the fifth and the last", true, x.act(2, 1, 2));
+        int[] left = {1, 2, 3, 4, 6, 7};
+        CHECK.due("rules", 6, x.of(1, 5));
+        for (int i = 0; i < 6; i++) {
+            CHECK.due("weight", left[i], x.ruleOf(1, i, 2));
+            CHECK.due("ruling", left[i] - 5, x.ruleOf(1, i, 1));
+            CHECK.due("cause", 3, x.ruleOf(1, i, 0));
+        }
+        CHECK.due("four below and two above 0", 72, x.of(1, 2));
+        CHECK.due("another wig keeps its rule", 1, x.of(0, 5));
+    }
+
+    // Promise 9, terms: "To COMB a CAUSE out: all its RULES go, ITCH anew."
     private static void combsAFullWigOfOneCause() {
         WornWigs x = Checks.bench(1, 0, 0);
         for (int i = 0; i < 8; i++) {
@@ -305,17 +338,18 @@ public final class EdgesCourtTest {
     private static void brushAtTheBounds() {
         int[][] due = {{0, 1, 1}, {0, 99, 99}, {98, 1, 99}, {99, 1, 99}, {98, 2, 99}, {99, 99, 99}, {1, 97, 98}};
         for (int[] d : due) {
-            WornWigs x = Checks.bench(2, 0, 0);
-            x.set(2, 1, d[0]);
+            WornWigs x = benchFor(0, 0);
+            x.set(2, WIG, d[0]);
             for (int i = 0; i < 8; i++) {
-                x.rule(1, 0, 1, i == 0 ? 1 : i == 1 ? 2 : i == 7 ? 99 : 50);
+                x.rule(WIG, 0, 1, i == 0 ? 1 : i == 1 ? 2 : i == 7 ? 99 : 50);
             }
-            CHECK.due("brush by " + d[1], true, x.act(3, 1, d[1]));
-            CHECK.due("hair of " + d[0] + " and " + d[1], d[2], x.of(1, 1));
-            CHECK.due("weight 1 is 1 at least", 1, x.ruleOf(1, 0, 2));
-            CHECK.due("weight 2", 1, x.ruleOf(1, 1, 2));
-            CHECK.due("weight 99", 98, x.ruleOf(1, 7, 2));
+            CHECK.due("brush by " + d[1], true, x.act(3, WIG, d[1]));
+            CHECK.due("hair of " + d[0] + " and " + d[1], d[2], x.of(WIG, 1));
+            CHECK.due("weight 1 is 1 at least", 1, x.ruleOf(WIG, 0, 2));
+            CHECK.due("weight 2", 1, x.ruleOf(WIG, 1, 2));
+            CHECK.due("weight 99", 98, x.ruleOf(WIG, 7, 2));
             CHECK.due("another wig", 50, x.of(0, 1));
+            othersAreLeft(x);
         }
     }
 

@@ -317,8 +317,14 @@ public final class EdgesPastTest {
             x.text(k);
         }
         x.trait(-1, 0, true);
+        x.trait(0, 2, true);
+        x.trait(0, 2, true);
         x.cite(-1, 0);
+        x.cite(7, 8);
+        x.cite(8, 9);
         x.hard(-1, 0);
+        x.hard(3, 1);
+        x.hard(3, 1);
         for (int k = 0; k < 10; k++) {
             x.parcel(k, 0, k);
             x.parcel(k, 1, k);
@@ -344,6 +350,62 @@ public final class EdgesPastTest {
     private static String afterAYear(WornWigs x) {
         x.years(1);
         return Checks.seen(x);
+    }
+
+    // Promise 39, terms: "THE IMAGE: all that is and was told but the TAPE, fault() and what can be undone (nothing
+    // then), as it was when it was taken;"
+    private static void eachThingToldForThoughtComesBack() {
+        WornWigs x = Checks.bench(3, 0, 0);
+        x.set(2, 0, 10);
+        x.set(2, 1, 20);
+        int[][] traits = {{1, 20, 1}, {1, 20, 0}, {1, 50, 1}, {2, 7, 0}};
+        int[] whose = {6, 1, 4, 7};
+        for (int i = 0; i < traits.length; i++) {
+            x.trait(-1, 0, true);
+            x.trait(traits[i][0], traits[i][1], traits[i][2] == 1);
+            x.image(true);
+            int other = (i + 1) % traits.length;
+            x.trait(-1, 0, true);
+            x.trait(traits[other][0], traits[other][1], traits[other][2] == 1);
+            CHECK.due("another trait", whose[other], x.whose(0));
+            x.image(false);
+            CHECK.due("the trait", whose[i], x.whose(0));
+        }
+        x.cite(1, 2);
+        x.hard(5, 1);
+        x.image(true);
+        x.cite(-1, 0);
+        x.cite(1, 3);
+        x.cite(2, 4);
+        x.hard(-1, 0);
+        x.hard(5, 2);
+        x.image(false);
+        x.cite(3, 4);
+        CHECK.due("1 cites 2, not 3", 2, x.chain(0));
+        CHECK.due("due at 1, not at 2", 4, x.hears(0));
+        x.image(true);
+        x.hard(-1, 0);
+        x.hard(9, 1);
+        x.cite(-1, 0);
+        x.cite(8, 2);
+        x.image(false);
+        CHECK.due("1 cites 2, not 8", 1, x.chain(1));
+        CHECK.due("5 hours, not 9", 4, x.hears(0));
+    }
+
+    // Promise 39, terms: "THE IMAGE: all that is and was told but the TAPE, fault() and what can be undone (nothing
+    // then), as it was when it was taken;"
+    private static void linesOfTheBookComeBack() {
+        WornWigs x = bench();
+        int line = x.look(6);
+        x.act(0, 0, 0);
+        x.image(true);
+        x.undo();
+        x.tries(1, 2);
+        CHECK.dueLine(x, line, 0, 0, 1, 0);
+        x.image(false);
+        CHECK.dueLine(x, line, 0, 1, 0, 0);
+        CHECK.due("lines", line + 1, x.look(6));
     }
 
     // Promise 39, terms: "THE IMAGE: all that is and was told but the TAPE, fault() and what can be undone (nothing

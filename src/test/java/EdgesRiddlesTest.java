@@ -328,6 +328,13 @@ public final class EdgesRiddlesTest {
                 6);
         dueCut("the parcel behind it of the second", one, new int[] {0, 0, 0, 0, 0, 1, 0, 0, 0, 0}, 5, 1, 5);
         dueCut("nothing is worth anything to it: the first part", one, new int[10], 5, 0, 6);
+        int[] atTheEnds = {7, 0, 0, 0, 0, 0, 0, 0, 0, 6};
+        dueCut("the first parcel is in the first part", atTheEnds, new int[] {3, 0, 0, 0, 0, 0, 0, 0, 0, 4}, 1, 4, 7);
+        dueCut("the last parcel is in the second part", atTheEnds, new int[] {4, 0, 0, 0, 0, 0, 0, 0, 0, 3}, 1, 4, 6);
+        dueCut("what is worth to the one is not to the other", new int[] {99, 0, 0, 0, 0, 0, 0, 0, 0, 99},
+                new int[] {0, 0, 0, 0, 1, 0, 0, 0, 0, 0}, 1, 1, 99);
+        dueCut("what is worth to the one is not to the other", new int[] {0, 0, 0, 0, 0, 0, 0, 0, 99, 98},
+                new int[] {0, 0, 0, 0, 0, 0, 0, 0, 0, 1}, 9, 1, 99);
     }
 
     // Promise 34: "NONE for another what."

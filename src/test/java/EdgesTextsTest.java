@@ -71,6 +71,20 @@ public final class EdgesTextsTest {
         CHECK.due("an empty text", 0, x.text(0));
     }
 
+    // Promise 12: "The TAPE has its first n bytes alone: true;"
+    private static void whatIsCutOffIsNotRead() {
+        WornWigs x = Checks.bench(1, 0, 0);
+        String[] cut = {"moth 1234|5;", "moth age|age;", "moth| 1;", "moth 1 |;", "moth 1+|1;", "mo|th 1;"};
+        int[] places = {9, 8, 4, 7, 7, 0};
+        for (int i = 0; i < cut.length; i++) {
+            Checks.tape(x, cut[i].replace("|", ""));
+            x.end(cut[i].indexOf('|'));
+            CHECK.due("'" + cut[i] + "'", -1, x.text(0));
+            CHECK.due("fault of '" + cut[i] + "'", 1, x.fault(0));
+            CHECK.due("place of '" + cut[i] + "'", places[i], x.fault(1));
+        }
+    }
+
     // Promise 12: "false, changing nothing, if it has not so many, or n is below 0."
     private static void tapeHasNotSoMany() {
         WornWigs x = new WornWigs();
@@ -148,6 +162,23 @@ public final class EdgesTextsTest {
         x.years(1);
         CHECK.due("docket and loans as they were", 0, x.look(5));
         CHECK.due("docket and loans as they were", 50 + 9 - 7, x.of(0, 1));
+    }
+
+    // Promise 13: "or a FAULT (it stays as it was)."
+    private static void faultLeavesNothingForTheNextText() {
+        String[] spoilt = {"moth 5 when not (not (1=1;", "moth 5 when ((((((((1=1;", "moth 5 when not not not 1;",
+            "moth 5 when 1=2 and;", "moth 5 when 1=1 or 1=1 and not (", "moth 5 when ((((((((((((", "moth 5; moth 5"};
+        for (String text : spoilt) {
+            WornWigs x = Checks.bench(1, 0, 0);
+            CHECK.due("a fault", -1, Checks.text(x, 0, text));
+            CHECK.dueText(x, 0, "moth 11 when 1=1; moth 22;", 2);
+            CHECK.due("after '" + text + "'", 11, x.of(0, 6));
+            CHECK.due("a fault", -1, Checks.text(x, 0, text));
+            CHECK.dueFault(x, 0, "moth 11 when 1=1); moth 22;", 1, 16);
+            CHECK.due("a fault", -1, Checks.text(x, 0, text));
+            CHECK.dueText(x, 0, "moth 11 when ((((((((1=2)))))))) or not 1=1; moth 22;", 2);
+            CHECK.due("after '" + text + "'", 22, x.of(0, 6));
+        }
     }
 
     // Promise 14: "Of the latest text() what 0 the FAULT (0 without one), 1 its place (NONE)."
@@ -244,6 +275,18 @@ public final class EdgesTextsTest {
         dueWhen("2>2", false);
         dueWhen("3>2", true);
         dueWhen("0-1<0", true);
+        String[] so = {"1<2", "2=2", "3>2"};
+        String[] notSo = {"2<1", "2=1", "2>3"};
+        for (int i = 0; i < 3; i++) {
+            for (int j = 0; j < 3; j++) {
+                dueWhen(so[i] + " and " + so[j], true);
+                dueWhen(so[i] + " and " + notSo[j], false);
+                dueWhen(notSo[i] + " or " + so[j], true);
+                dueWhen(notSo[i] + " or " + notSo[j], false);
+            }
+            dueWhen("not " + so[i], false);
+            dueWhen("not " + notSo[i], true);
+        }
         dueWhen("1+1*2=9/3", true);
         lawFault("moth 1 when 1;", 1, 13);
         lawFault("moth 1 when 1<;", 1, 14);
@@ -331,6 +374,9 @@ public final class EdgesTextsTest {
         for (String text : cut) {
             CHECK.dueFault(x, 1, text, 1, text.length());
             CHECK.dueFault(x, 1, text + " before before", 1, text.length() + (text.endsWith("case 0") ? 8 : 1));
+            if (!text.endsWith("before 0")) {
+                CHECK.dueFault(x, 1, text + ";", 1, text.length());
+            }
         }
         CHECK.dueFault(x, 1, ";", 1, 0);
         CHECK.dueFault(x, 1, "case 0 before 0;", 1, 0);
@@ -350,6 +396,11 @@ public final class EdgesTextsTest {
         for (String text : cut) {
             CHECK.dueFault(x, 2, text, 1, text.length());
             CHECK.dueFault(x, 2, text + " in", 1, text.length() + 1);
+        }
+        String[] cutShort = {"in", "in 0", "in 0 wig", "in 0 wig 0", "in 0 wig 0 on", "in 0 off", "in 0 comb",
+            "in 0 comb 0", "in 0 brush", "in 0 brush 0"};
+        for (String text : cutShort) {
+            CHECK.dueFault(x, 2, text + ";", 1, text.length());
         }
         CHECK.dueFault(x, 2, "in 0 case 0 before 0;", 1, 5);
         CHECK.dueFault(x, 2, "in 0 on 0;", 1, 5);
@@ -382,6 +433,9 @@ public final class EdgesTextsTest {
         for (String text : cut) {
             CHECK.dueFault(x, 3, text, 1, text.length());
             CHECK.dueFault(x, 3, text + " wig", 1, text.length() + 1);
+            if (!text.endsWith("of 1")) {
+                CHECK.dueFault(x, 3, text + ";", 1, text.length());
+            }
         }
         CHECK.dueFault(x, 3, "of 1;", 1, 0);
         CHECK.dueFault(x, 3, "wig 0 on 1;", 1, 6);
@@ -399,6 +453,8 @@ public final class EdgesTextsTest {
         CHECK.dueText(x, 3, "wig 2 of 6;wig 2 of 5;", 2);
         CHECK.due("of several the first", 6, x.kin(2, -1));
         CHECK.due("the other is of none", 5, x.kin(5, -1));
+        CHECK.dueText(x, 3, "wig 0 of 1;".repeat(15) + "wig 6 of 7;", 16);
+        CHECK.due("the sixteenth line counts", 7, x.kin(6, -1));
     }
 
     // Promise 13, terms: "16 lines of each at most."
@@ -469,6 +525,8 @@ public final class EdgesTextsTest {
                 lawFault("moth 3 ;;", 1, 8);
             } else if (!isLetterOrDigit) {
                 lawFault("moth 3 " + (char) b + ";", 1, 7);
+                lawFault("moth " + (char) b + ";", 1, 5);
+                lawFault("moth 3;" + (char) b, 1, 7);
             }
         }
     }
@@ -696,9 +754,9 @@ public final class EdgesTextsTest {
         int[] onWearer = {42, 5, 2, 62, 9, 2, 6, 22, 1, 0};
         int[] onAnother = {43, 6, 2, 62, 9, 2, 6, 22, 0, 0};
         for (int i = 0; i < 10; i++) {
-            Checks.text(x, 0, "counts " + ASKED[i] + ";");
-            CHECK.due("counts " + ASKED[i], onWearer[i], x.ruleOf(1, 1, 11));
-            CHECK.due("on one who does not wear it " + ASKED[i], onAnother[i], x.ruleOf(1, 1, 12));
+            Checks.text(x, 0, "counts " + ASKED[i] + " + 9;");
+            CHECK.due("counts " + ASKED[i], onWearer[i] + 9, x.ruleOf(1, 1, 11));
+            CHECK.due("on one who does not wear it " + ASKED[i], onAnother[i] + 9, x.ruleOf(1, 1, 12));
         }
         Checks.text(x, 0, "counts mind + 50;");
         CHECK.due("a mind below 0", 46, x.ruleOf(1, 1, 10));
@@ -712,11 +770,11 @@ public final class EdgesTextsTest {
         WornWigs x = askedBench();
         int[] due = {0, 0, 2, 62, 9, 2, 0, 0, 0, 0};
         for (int i = 0; i < 10; i++) {
-            Checks.text(x, 0, "moth " + ASKED[i] + ";");
+            Checks.text(x, 0, "moth " + ASKED[i] + " + 9;");
             // What was asked ahead of it leaves nothing behind.
             x.ruleOf(1, 1, 11);
             x.who(1, 5);
-            CHECK.due("moth " + ASKED[i], due[i], x.of(1, 6));
+            CHECK.due("moth " + ASKED[i], due[i] + 9, x.of(1, 6));
         }
         Checks.text(x, 0, "moth year;");
         x.years(1);
@@ -729,11 +787,11 @@ public final class EdgesTextsTest {
         int[] worn = {42, 5, 2, 62, 9, 2, 0, 0, 1, 0};
         int[] bare = {43, 6, 0, 0, 0, 0, 0, 0, 0, 0};
         for (int i = 0; i < 10; i++) {
-            Checks.text(x, 0, "dies " + ASKED[i] + ";");
+            Checks.text(x, 0, "dies " + ASKED[i] + " + 9;");
             x.ruleOf(1, 1, 11);
-            CHECK.due("dies " + ASKED[i], worn[i], x.who(1, 5));
+            CHECK.due("dies " + ASKED[i], worn[i] + 9, x.who(1, 5));
             x.of(1, 6);
-            CHECK.due("without a wig " + ASKED[i], bare[i], x.who(2, 5));
+            CHECK.due("without a wig " + ASKED[i], bare[i] + 9, x.who(2, 5));
         }
         Checks.text(x, 0, "dies year;");
         x.state(0);

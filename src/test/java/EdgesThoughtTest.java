@@ -110,6 +110,22 @@ public final class EdgesThoughtTest {
         CHECK.due("as ever", -1, x.of(1, 4));
     }
 
+    // Promise 20, terms: "IN THOUGHT (nothing of it stays; no DRAWS: he dies, if dies is 500 at least)."
+    private static void behindAThoughtYearsGoAsEver() {
+        WornWigs x = Checks.bench(1, 2, 1);
+        Checks.text(x, 0, "dies 499;");
+        x.goes(60, 0);
+        x.act(0, 0, 0);
+        CHECK.due("the book has its line", 1, x.look(6));
+        // From 0 the draw is 563, from there 577: both live by draws that are no thought.
+        CHECK.due("nobody dies", 0, x.years(1));
+        CHECK.due("both drew", 1013904223 * 1664525 + 1013904223, x.look(7));
+        Checks.text(x, 0, "dies 1000;");
+        x.goes(1, 0);
+        CHECK.due("both die", 2, x.years(1));
+        CHECK.due("the book has their lines and that of the wig", 4, x.look(6));
+    }
+
     // Promise 20, terms: "GOES for n (1 .. 60) YEARS: how many are DEAD, how many RULES there are in all WIGS, HAIR of
     // all, VERDICTS above 0 then."
     private static void goesWithLoansAndDocket() {

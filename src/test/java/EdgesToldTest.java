@@ -289,9 +289,9 @@ public final class EdgesToldTest {
             CHECK.due("itch with " + (i + 1) + " rules", itches[i], x.of(0, 2));
         }
         for (int i = 0; i < 7; i++) {
-            x.rule(1, 0, i < 3 ? 1 : -1, 5);
+            x.rule(1, 7, i < 3 ? 1 : -1, 5);
         }
-        CHECK.due("12 couples", 99, x.of(1, 2));
+        CHECK.due("12 couples of the last cause", 99, x.of(1, 2));
     }
 
     // Promise 6: "NONE if one can't be,"

@@ -151,6 +151,17 @@ public final class EdgesYearsTest {
     }
 
     // Promise 10, terms: "A YEAR. (a) Line by line of LOANS, then of DOCKET for it what can be done."
+    private static void sixteenthLinesAreDoneToo() {
+        WornWigs x = Checks.bench(1, 1, 2);
+        Checks.text(x, 0, "moth 0;");
+        CHECK.dueText(x, 1, "in 9 case 0 before 0;".repeat(15) + "in 0 case 1 before 0;", 16);
+        CHECK.dueText(x, 2, "in 0 brush 0 1;".repeat(15) + "in 0 brush 0 9;", 16);
+        x.years(1);
+        CHECK.due("the sixteenth case", 1, x.look(5));
+        CHECK.due("all sixteen brushings", 50 + 15 + 9, x.of(0, 1));
+    }
+
+    // Promise 10, terms: "A YEAR. (a) Line by line of LOANS, then of DOCKET for it what can be done."
     private static void whatCannotBeDoneIsPassedOver() {
         WornWigs x = Checks.bench(2, 3, 2);
         Checks.kill(x, 2);
@@ -338,20 +349,21 @@ public final class EdgesYearsTest {
 
     // Promise 10, terms: "is it 0 then, its first RULE goes (if any), ITCH anew;"
     private static void withoutHairTheFirstRuleGoes() {
-        int[][] hairs = {{2, 3}, {1, 2}, {0, 2}};
+        int[][] hairs = {{2, 3, 0}, {1, 2, 0}, {0, 2, 0}, {2, 3, 7}, {1, 2, 7}, {0, 2, 7}};
         for (int[] h : hairs) {
-            WornWigs x = Checks.bench(1, 0, 0);
-            x.set(2, 0, h[0]);
-            x.rule(0, 3, 1, 7);
-            x.rule(0, 4, 1, 8);
-            x.rule(0, 3, -1, 9);
-            CHECK.due("itch", 9, x.of(0, 2));
+            int wig = h[2];
+            WornWigs x = Checks.bench(8, 0, 0);
+            x.set(2, wig, h[0]);
+            x.rule(wig, 3, 1, 7);
+            x.rule(wig, 4, 1, 8);
+            x.rule(wig, 3, -1, 9);
+            CHECK.due("itch", 9, x.of(wig, 2));
             Checks.text(x, 0, "moth 1;");
             x.years(1);
-            CHECK.due("rules with hair " + h[0], h[1], x.of(0, 5));
-            CHECK.due("itch", h[1] == 3 ? 9 : 0, x.of(0, 2));
-            CHECK.due("the first", h[1] == 3 ? 7 : 8, x.ruleOf(0, 0, 2));
-            CHECK.due("the last", 9, x.ruleOf(0, h[1] - 1, 2));
+            CHECK.due("rules with hair " + h[0], h[1], x.of(wig, 5));
+            CHECK.due("itch", h[1] == 3 ? 9 : 0, x.of(wig, 2));
+            CHECK.due("the first", h[1] == 3 ? 7 : 8, x.ruleOf(wig, 0, 2));
+            CHECK.due("the last", 9, x.ruleOf(wig, h[1] - 1, 2));
             CHECK.due("lines", h[1] == 3 ? 0 : 1, x.look(6));
         }
     }
@@ -371,18 +383,18 @@ public final class EdgesYearsTest {
 
     // Promise 10, terms: "WEIGHT of all RULES of a WIG that is worn is one more (99 at most)."
     private static void weightsOfWornWigs() {
-        WornWigs x = Checks.bench(2, 1, 0);
         int[] weights = {1, 97, 98, 99, 50, 1, 1, 1};
         int[] due = {2, 98, 99, 99, 51, 2, 2, 2};
-        for (int i = 0; i < 8; i++) {
-            x.rule(0, 0, 1, weights[i]);
-            x.rule(1, 0, 1, weights[i]);
-        }
-        x.act(0, 0, 0);
-        x.years(1);
-        for (int i = 0; i < 8; i++) {
-            CHECK.due("worn " + i, due[i], x.ruleOf(0, i, 2));
-            CHECK.due("not worn " + i, weights[i], x.ruleOf(1, i, 2));
+        for (int worn = 0; worn <= 7; worn += 7) {
+            WornWigs x = Checks.bench(8, 1, 0);
+            for (int i = 0; i < 64; i++) {
+                x.rule(i / 8, 0, 1, weights[i % 8]);
+            }
+            x.act(0, worn, 0);
+            x.years(1);
+            for (int i = 0; i < 64; i++) {
+                CHECK.due("weight of rule " + i, i / 8 == worn ? due[i % 8] : weights[i % 8], x.ruleOf(i / 8, i % 8, 2));
+            }
         }
     }
 
